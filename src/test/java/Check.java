@@ -1,0 +1,45 @@
+import java.nio.charset.StandardCharsets;
+
+/** Counts answers that are not the one that is due, and feeds texts to a tape. */
+final class Check {
+    private static int wrong;
+    private static int looked;
+
+    private Check() {
+    }
+
+    static void due(String call, long got, long want) {
+        looked++;
+        if (got != want) {
+            wrong++;
+            System.out.println(call + " answered " + got + ", due is " + want);
+        }
+    }
+
+    static void dueText(String what, String got, String want) {
+        looked++;
+        if (!got.equals(want)) {
+            wrong++;
+            System.out.println(what + ": " + got + ", due is " + want);
+        }
+    }
+
+    static void feedText(SendTheBox x, String text) {
+        for (byte b : text.getBytes(StandardCharsets.ISO_8859_1)) {
+            x.feed(b, 1);
+        }
+    }
+
+    /** Feeds a text and makes a house of it. */
+    static int house(SendTheBox x, String text) {
+        feedText(x, text);
+        return x.house();
+    }
+
+    static void finish() {
+        System.out.println(looked + " answers looked at, " + wrong + " not as due");
+        if (wrong != 0) {
+            System.exit(1);
+        }
+    }
+}
