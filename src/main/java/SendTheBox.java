@@ -1300,7 +1300,7 @@ public final class SendTheBox {
 
         /** The work row from behind the load to ahead of it, by what is best. */
         private void goBackBest(int left, long box) {
-            // Downwards, as a state needs those with less parcels as they were.
+            // Downwards, as a state needs those with fewer parcels as they were.
             for (int state = states - 1; state >= 0; state--) {
                 int sent = pick(state, box, false);
                 put(loads, placeOf(left, state), sent);

@@ -101,6 +101,15 @@ public final class BestTest {
         x.change(0, 0, 3, 0);
         x.alter(0, 1, 40);
         Check.due("no more than pays", x.best(0, 1, 24), 20);
+        String sort = "sort room 9 comes 0 hold 1";
+        Check.house(x, "days 6;box 2 room 9;" + sort + ";" + sort + ";" + sort + " left 1");
+        for (int left = 1; left <= 6; left++) {
+            // One of each stands; a box takes one. It saves as many coins as days are left, one more of sort 2.
+            Check.due("of three " + left, x.best(1, left, 31), left == 1 ? 0 : left == 2 ? 25 : 1);
+            Check.due("of two " + left, x.best(1, left, 6), left <= 2 ? 0 : 1);
+            Check.due("of sorts 1 and 2 " + left, x.best(1, left, 30), left == 1 ? 0 : left == 2 ? 25 : 5);
+        }
+        Check.due("a day more of hold", x.waits(1, 6, 25), 1L << 48);
     }
 
     private static void fills() {
@@ -202,12 +211,15 @@ public final class BestTest {
         // Two of sort 0 have more room than one of sort 1, but are not sent; one alone has less.
         Check.due("odd", x.odd(2, 1), 2);
         Check.due("no bar", x.shape(2, 1), -1);
+        Check.house(x, "days 1;box 1 room 10;sort room 4 comes 0 hold 9;sort room 4 comes 0 hold 0");
+        Check.due("odd: of the same room", x.odd(3, 1), 5);
+        Check.due("no bar", x.shape(3, 1), -1);
         for (int left : new int[] {0, 2, -1}) {
             Check.due("shape: no such days", x.shape(2, left), -2);
             Check.due("odd: no such days", x.odd(2, left), -2);
         }
-        Check.due("shape: no such house", x.shape(3, 1), -2);
-        Check.due("odd: no such house", x.odd(3, 1), -2);
+        Check.due("shape: no such house", x.shape(4, 1), -2);
+        Check.due("odd: no such house", x.odd(4, 1), -2);
     }
 
     private static void judges() {

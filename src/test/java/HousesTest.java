@@ -94,6 +94,9 @@ public final class HousesTest {
         fault("day 2", 0);
         fault("dayss 2", 0);
         fault("Days 2", 0);
+        fault("daysz 2", 0);
+        fault("xays 2", 0);
+        fault("bax 2", 0);
         fault("daYs 2", 0);
         fault("days=2", 4);
         fault("days\t2", 4);
@@ -118,6 +121,8 @@ public final class HousesTest {
         fault("sort room 1 comes 1;", 19);
         fault(SORT + " refuse", 33);
         fault(SORT + " refuse 100", 34);
+        fault(SORT + ";" + SORT + " refuse", 60);
+        fault(SORT + ";" + SORT + " refuse;full 1", 60);
         fault(SORT + " refuse 1 refuse 1", 36);
         fault(SORT + " left 1 refuse 1", 34);
         fault(SORT + " left 1 left 1", 34);

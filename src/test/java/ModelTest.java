@@ -44,7 +44,7 @@ public final class ModelTest {
             }
             int i = random.nextInt(face.length);
             String name = face[i].getName();
-            if (name.equals("house") && random.nextInt(3) > 0 || name.equals("plain") && random.nextInt(2 * mostSorts) > 0) {
+            if (isRare(name) && random.nextInt(2 * mostSorts) > 0) {
                 continue;
             }
             calls += both(run, face, told, x, y, name, arguments(name, y));
@@ -52,6 +52,12 @@ public final class ModelTest {
         for (int what = 0; what <= 17; what++) {
             both(run, face, told, x, y, "status", new Object[] {what});
         }
+    }
+
+    /** Calls that clear away what stands, or that the model is long about. */
+    private static boolean isRare(String name) {
+        return name.equals("house") || name.equals("plain") || name.equals("image") || name.equals("back")
+            || name.equals("row") || name.equals("wipe");
     }
 
     private static int both(int run, Method[] face, Method[] told, SendTheBox x, Told y, String name, Object[] with)
@@ -124,12 +130,15 @@ public final class ModelTest {
         int left = near(h == null ? 4 : h.days + 1);
         int state = near(h == null ? 125 : h.states());
         int sort = near(h == null ? 3 : h.sorts.size());
-        int s = near(8);
+        // Mostly rules stand on the first shelves, rows on the last.
+        boolean any = random.nextInt(10) == 0;
+        int s = any ? near(8) : near(4);
+        int r = any ? s : 7 - s;
         switch (name) {
-            case "row": return new Object[] {s, near(5), random.nextBoolean() ? near(126) : near(4)};
-            case "set": return new Object[] {s, near(random.nextBoolean() ? 3 : 30), value()};
-            case "copy": return new Object[] {s, near(8), near(4), near(4), near(4)};
-            case "element": return new Object[] {s, near(random.nextBoolean() ? 3 : 30)};
+            case "row": return new Object[] {r, near(5), random.nextBoolean() ? near(126) : near(4)};
+            case "set": return new Object[] {r, near(random.nextBoolean() ? 3 : 30), value()};
+            case "copy": return new Object[] {r, 4 + near(4), near(4), near(4), near(4)};
+            case "element": return new Object[] {r, near(random.nextBoolean() ? 3 : 30)};
             case "rule": return rule(s);
             case "says": return new Object[] {s, near(6)};
             case "feed": return new Object[] {random.nextInt(), near(5)};
@@ -145,7 +154,7 @@ public final class ModelTest {
             case "dear": return new Object[] {house, left, state, sort};
             case "reach": return new Object[] {house, left, s};
             case "held": return new Object[] {house, sort, s};
-            case "judge": return new Object[] {house, state, s};
+            case "judge": return new Object[] {house, state, r};
             case "join": case "saved": return new Object[] {house, near(y.houses.size())};
             case "boxes": case "begin": return new Object[] {house, s};
             case "weeks": return new Object[] {house, s, near(random.nextBoolean() ? 5 : 51)};
@@ -154,14 +163,14 @@ public final class ModelTest {
             case "status": return new Object[] {near(18)};
             case "seed": return new Object[] {random.nextInt()};
             case "plain": case "every": case "boy": return new Object[] {house};
-            case "holds": return new Object[] {s};
+            case "holds": return new Object[] {near(8)};
             default: return new Object[0];
         }
     }
 
     private static Object[] rule(int s) {
         int kind = near(6);
-        int a = kind == 2 ? near(7) : kind == 3 ? 10 * near(60) + near(7) : kind == 5 ? near(8) : near(60);
+        int a = kind == 2 ? near(7) : kind == 3 ? 10 * near(60) + near(7) : kind == 5 ? 4 + near(4) : near(60);
         return new Object[] {s, kind, a};
     }
 

@@ -94,6 +94,8 @@ public final class RulesTest {
         Check.due("best", x.boy(0), 7);
         x.rule(6, 1, 4);
         Check.due("as good as best", x.boy(0), 6);
+        x.rule(0, 4, 0);
+        Check.due("the first shelf, too", x.boy(0), 0);
         Check.due("bad house", x.boy(1), -2);
     }
 
@@ -165,6 +167,10 @@ public final class RulesTest {
         x.change(0, 0, 0, 0);
         Check.due("plain: all alike", x.plain(0), 0);
         Check.due("every: all alike", x.every(0), 1);
+        SendTheBox y = new SendTheBox();
+        Check.house(y, "days 6;box 99 room 9;sort room 9 comes 4 hold 1");
+        Check.due("every: 6 is never, as nothing stands yet", y.every(0), 6);
+        Check.due("plain: never", y.plain(0), 37);
         Check.due("plain: no such house", x.plain(1), -2);
         Check.due("every: no such house", x.every(1), -2);
         Check.due("plain: no such house", x.plain(-1), -2);

@@ -50,6 +50,10 @@ public final class ShelvesTest {
         Check.due("row of 0", x.row(7, 3, 0), 1);
         Check.due("set in row of 0", x.set(7, 0, 1), -2);
         Check.due("status(3)", x.status(3), 6);
+        x.row(6, 3, 1);
+        Check.due("set in row of 1", x.set(6, 0, 5), 1);
+        Check.due("element of row of 1", x.element(6, 0), 5);
+        Check.due("set behind it", x.set(6, 1, 5), -2);
         x.set(0, 3, 9);
         Check.due("row again", x.row(0, 0, 4), 1);
         Check.due("a new row is empty", x.element(0, 3), 0);

@@ -10,6 +10,7 @@ public final class WeeksTest {
         manyWeeks();
         refusals();
         images();
+        keptWeek();
         status();
         Check.finish();
     }
@@ -235,6 +236,27 @@ public final class WeeksTest {
         Check.due("no week", y.week(0), -5);
         Check.due("a house again", Check.house(y, "days 1;sort room 1 comes 2 hold 1"), 0);
         Check.due("the new one", y.houseOf(0, 0), 1);
+    }
+
+    private static void keptWeek() {
+        SendTheBox x = new SendTheBox();
+        Check.house(x, "days 6;box 3 room 1;sort room 9 comes 4 hold 1 refuse 2;sort room 1 comes 4 hold 0");
+        Check.house(x, "days 1;sort room 1 comes 0 hold 0");
+        x.rule(0, 1, 0);
+        x.begin(0, 0);
+        Check.due("five days", x.step(5), 0 + 4 + 5 + 6 + 7 + 2);
+        x.image();
+        x.rule(0, 1, 99);
+        x.begin(1, 0);
+        x.step(1);
+        x.back();
+        int[] want = {1, 4 + 5, 24, 4, 4, 1};
+        for (int what = 0; what <= 5; what++) {
+            Check.due("kept week(" + what + ")", x.week(what), want[what]);
+        }
+        Check.due("by its house and rule", x.step(1), 3 + 4 + 2);
+        x.back();
+        Check.due("and again", x.step(1), 3 + 4 + 2);
     }
 
     private static void status() {
