@@ -30,6 +30,7 @@ public final class MadeEdgesTest {
         theLastDaysEnd();
         oneToFiftyWeeks();
         anotherIsGivenUp();
+        otherDaysAlone();
         imagesKeepAllBut();
         theLaterImage();
         statusOfAll();
@@ -178,6 +179,20 @@ public final class MadeEdgesTest {
         x.alter(0, 1, 1);
         for (int left = 1; left <= 4; left++) {
             Check.due("no LOAD is something", x.promise(0, left), 0);
+        }
+        // With one and two days left all 4 STAND, which BEST leaves there.
+        SendTheBox y = with("days 6;box 99 room 40;sort room 1 comes 4 hold 0");
+        for (int left = 1; left <= 6; left++) {
+            Check.due("the greatest STATE, " + left, y.promise(0, left), left == 6 ? 0 : 99L << 24);
+        }
+        // What must be put in is what is best then: the parcel that would be left, not FILL's that costs hold.
+        SendTheBox z = with("days 2;box 99 room 1;sort room 1 comes 4 hold 1;sort room 1 comes 4 hold 0 left 99");
+        int[] box = {98, 99};
+        for (int b : box) {
+            z.alter(0, 0, b);
+            Check.due("FILL", z.fill(0, 6), 1);
+            Check.due("promise, box " + b, z.promise(0, 1), 0);
+            Check.due("once, box " + b, z.once(0, 1, 6), 98 << 6);
         }
     }
 
@@ -458,6 +473,41 @@ public final class MadeEdgesTest {
         Check.due("the one ahead is gone", x.step(1), -5);
         Check.due("as it is now", x.begin(1, 0), 2);
         Check.due("its house as it is", x.step(6), 9);
+    }
+
+    // HOUSES that differ in their days alone follow one another in a week, in a place of the image, joined.
+    private static void otherDaysAlone() {
+        String often = "box 1 room 9;sort room 1 comes 4 hold 9";
+        SendTheBox x = with("days 1;" + often);
+        Check.house(x, "days 3;" + often);
+        x.rule(0, 4, 0);
+        int[][] weeks = {{0, 0}, {1, 2}, {0, 0}, {1, 2}};
+        for (int[] w : weeks) {
+            x.begin(w[0], 0);
+            Check.due("coins of HOUSE " + w[0], x.step(6), w[1]);
+            Check.due("boxes of HOUSE " + w[0], x.week(3), w[1]);
+        }
+        SendTheBox y = new SendTheBox();
+        y.image();
+        y.rule(0, 4, 0);
+        for (int days = 1; days <= 6; days++) {
+            y.back();
+            Check.house(y, "days " + days + ";" + often);
+            Check.due("one past, " + days, y.cost(0, days + 1, 0), -2);
+            Check.due("cost, " + days, y.cost(0, days, 0), (days - 1L) << 4 * days);
+            Check.due("promise, " + days, y.promise(0, days), 0);
+            Check.due("mean, " + days, y.mean(0, days, 0, 0), (days - 1L) << 4 * days);
+            Check.due("one past", y.mean(0, days + 1, 0, 0), -2);
+        }
+        SendTheBox z = new SendTheBox();
+        for (int i = 0; i < 6; i++) {
+            Check.house(z, "days " + (1 + i / 2) + ";" + often);
+        }
+        for (int i = 0; i < 3; i++) {
+            // Both send on all days but the first; joined they send in one box.
+            Check.due("saved, " + (1 + i) + " days", z.saved(2 * i, 2 * i + 1), (long) i << 6 * (1 + i));
+        }
+        Check.due("saved, other days", z.saved(1, 2), -5);
     }
 
     // image: "All is kept, but THE TAPE, SHELVES and status()"

@@ -155,6 +155,10 @@ public final class TapeEdgesTest {
             fault(String.valueOf(c), c == ' ' ? 1 : 0);
             // Amid a number: a digit makes it longer, a blank parts it.
             fault("days 1" + c + "1", c >= '0' && c <= '9' ? 5 : c == ' ' ? 7 : c == ';' ? 7 : 6);
+            // Behind a word: a letter makes it longer; all else parts it, and a 0 stands ahead of a good number.
+            boolean letter = c >= 'a' && c <= 'z';
+            due("days" + c + "2;" + SORT, c == ' ' || c == '0' ? 0 : letter ? -20 : -24);
+            due("full 1" + c + ";" + SORT, c == ' ' ? 0 : c >= '0' && c <= '9' ? -25 : c == ';' ? -27 : -26);
         }
     }
 
