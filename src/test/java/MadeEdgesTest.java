@@ -508,6 +508,15 @@ public final class MadeEdgesTest {
             Check.due("saved, " + (1 + i) + " days", z.saved(2 * i, 2 * i + 1), (long) i << 6 * (1 + i));
         }
         Check.due("saved, other days", z.saved(1, 2), -5);
+        SendTheBox v = with("days 1;box 9 room 8;full 1" + ";sort room 2 comes 1 hold 1 refuse 1 left 1".repeat(3));
+        Check.house(v, "days 3;" + often);
+        Check.due("no number of the HOUSE is 0", v.cost(0, 0, 31), 3);
+        v.rule(0, 4, 0);
+        v.begin(0, 0);
+        v.step(1);
+        v.begin(1, 0);
+        Check.due("coins of a HOUSE that differs in all", v.step(6), 2);
+        Check.due("boxes of a HOUSE that differs in all", v.week(3), 2);
     }
 
     // image: "All is kept, but THE TAPE, SHELVES and status()"
