@@ -132,6 +132,9 @@ public final class MadeEdgesTest {
         Check.due("nothing ever fits: all alike", y.plain(0), 0);
         y.alter(0, 1, 40);
         Check.due("one past the ROOM of all", y.plain(0), 97);
+        // ROOM 108 can stand, but no a past 99 can be: 91 to 99 fill at 99 and 108, the lesser ones more often.
+        SendTheBox w = with("days 5;box 99 room 40;sort room 9 comes 4 hold 0;sort room 9 comes 4 hold 0;sort room 9 comes 3 hold 0");
+        Check.due("no a past 99", w.plain(0), 91);
         for (int days = 1; days <= 6; days++) {
             // Sending costs 9 and saves nothing: best on the first day alone, when nothing stands yet.
             SendTheBox z = with("days " + days + ";box 9 room 40;sort room 1 comes 4 hold 0");
